@@ -25,14 +25,13 @@ public final class QueryMachine {
     public QueryMachine() {
         Values values = new Values();
         nextText = new char[MOST_CHARACTERS];
-        nextTextLength = 0;
         reader = new Reader(values);
         writer = new Writer();
         runner = new Runner(values);
         theDocument = values.nothing;
         theQuery = new Query();
         theQuery.append(Query.SELF);
-        theQuery.isWellFormed();
+        theQuery.findsParts();
         nextQuery = new Query();
     }
 
@@ -80,7 +79,7 @@ public final class QueryMachine {
 
     /** Makes the bytes the query. */
     public void query() throws IllegalArgumentException {
-        boolean wellFormed = nextQuery.isWellFormed();
+        boolean wellFormed = nextQuery.findsParts();
         if (wellFormed) {
             // The rows of the query that goes take the bytes of the one to come.
             Query gone = theQuery;
@@ -119,20 +118,12 @@ public final class QueryMachine {
 
     /** The kind of a value of the latest run, or of the document. */
     public int kind(int k) throws NoSuchElementException {
-        Value value = valueAt(k);
-        if (value == null) {
-            throw new NoSuchElementException();
-        }
-        return value.kind;
+        return valueOrDocument(k).kind;
     }
 
     /** A character of the text of a value, or how many there are. */
     public int written(int k, int i) throws NoSuchElementException, IndexOutOfBoundsException {
-        Value value = valueAt(k);
-        if (value == null) {
-            throw new NoSuchElementException();
-        }
-        writer.write(value, i);
+        writer.write(valueOrDocument(k), i);
         if (i == HOW_MANY) {
             return writer.length;
         }
@@ -144,10 +135,7 @@ public final class QueryMachine {
 
     /** A value of the latest run, or the document, as an integer. */
     public long integer(int k) throws NoSuchElementException, IllegalStateException {
-        Value value = valueAt(k);
-        if (value == null) {
-            throw new NoSuchElementException();
-        }
+        Value value = valueOrDocument(k);
         if (value.kind != Value.INTEGER) {
             throw new IllegalStateException();
         }
@@ -156,15 +144,19 @@ public final class QueryMachine {
 
     /** Makes a value of the latest run the document. */
     public void adopt(int k) throws NoSuchElementException {
+        theDocument = valueOfRun(k);
+    }
+
+    private Value valueOrDocument(int k) {
+        return k == THE_DOCUMENT ? theDocument : valueOfRun(k);
+    }
+
+    private Value valueOfRun(int k) {
         Value value = runner.valueAt(k);
         if (value == null) {
             throw new NoSuchElementException();
         }
-        theDocument = value;
-    }
-
-    private Value valueAt(int k) {
-        return k == THE_DOCUMENT ? theDocument : runner.valueAt(k);
+        return value;
     }
 
     private static boolean isAmount(int n) {
@@ -304,7 +296,6 @@ public final class QueryMachine {
         Gathering() {
             keys = new Value[Value.MOST_ITEMS];
             items = new Value[Value.MOST_ITEMS];
-            size = 0;
         }
 
         void clear() {
@@ -490,9 +481,6 @@ public final class QueryMachine {
                 gatherings[i] = new Gathering();
             }
             letters = new char[Value.MOST_LETTERS];
-            text = letters;
-            length = 0;
-            at = 0;
             bad = NOWHERE;
         }
 
@@ -525,30 +513,30 @@ public final class QueryMachine {
                 case '"':
                     return readString();
                 case '[':
-                    return readList(depth);
+                    return readItems(depth, false);
                 case '{':
-                    return readObject(depth);
+                    return readItems(depth, true);
                 default:
                     return readInteger();
             }
         }
 
-        private Value readList(int depth) {
+        private Value readItems(int depth, boolean ofObject) {
+            char close = ofObject ? '}' : ']';
             Gathering gathering = gatherings[depth];
             gathering.clear();
             at++;
-            if (passes(']')) {
-                return values.list(gathering);
+            if (passes(close)) {
+                return made(gathering, ofObject);
             }
             for (int i = 1; i <= Value.MOST_ITEMS; i++) {
-                Value item = readValue(depth + 1);
-                if (item == null) {
+                if (!(ofObject ? readMember(gathering, depth + 1) : readItem(gathering, depth + 1))) {
                     return null;
                 }
-                gathering.add(item);
-                if (passes(']')) {
-                    return values.list(gathering);
+                if (passes(close)) {
+                    return made(gathering, ofObject);
                 }
+                // Members are counted here, not in the gathering, where a key that comes again takes no room.
                 if (i == Value.MOST_ITEMS || !passes(',')) {
                     return refused();
                 }
@@ -556,25 +544,13 @@ public final class QueryMachine {
             return refused();
         }
 
-        private Value readObject(int depth) {
-            Gathering gathering = gatherings[depth];
-            gathering.clear();
-            at++;
-            if (passes('}')) {
-                return values.object(gathering);
-            }
-            for (int i = 1; i <= Value.MOST_ITEMS; i++) {
-                if (!readMember(gathering, depth)) {
-                    return null;
-                }
-                if (passes('}')) {
-                    return values.object(gathering);
-                }
-                if (i == Value.MOST_ITEMS || !passes(',')) {
-                    return refused();
-                }
-            }
-            return refused();
+        private Value made(Gathering gathering, boolean ofObject) {
+            return ofObject ? values.object(gathering) : values.list(gathering);
+        }
+
+        private boolean readItem(Gathering gathering, int depth) {
+            Value item = readValue(depth);
+            return item != null && gathering.add(item);
         }
 
         private boolean readMember(Gathering gathering, int depth) {
@@ -583,7 +559,7 @@ public final class QueryMachine {
             if (key == null) {
                 return false;
             }
-            Value item = passes(':') ? readValue(depth + 1) : refused();
+            Value item = passes(':') ? readValue(depth) : refused();
             return item != null && gathering.put(key, item);
         }
 
@@ -690,9 +666,6 @@ public final class QueryMachine {
 
         Writer() {
             digits = new char[MOST_DIGITS];
-            wanted = 0;
-            found = 0;
-            length = 0;
         }
 
         void write(Value value, int place) {
@@ -821,7 +794,7 @@ public final class QueryMachine {
         static final int MOST_DEPTH = 12;
         static final int FIRST_LETTER = 97;
         static final int LAST_LETTER = 122;
-        private static final int NUMBER_OF_ZERO = 128;
+        private static final int BYTE_OF_ZERO = 128;
         private static final int MALFORMED = -1;
         /** How many parts stand in a part that begins with each byte. */
         private static final int[] PARTS_IN = {
@@ -835,7 +808,6 @@ public final class QueryMachine {
         Query() {
             code = new int[MOST_BYTES];
             behind = new int[MOST_BYTES];
-            length = 0;
         }
 
         void clear() {
@@ -849,19 +821,19 @@ public final class QueryMachine {
             }
         }
 
-        /** Must have been asked, and been true, before the query is run: it finds where the parts end. */
-        boolean isWellFormed() {
-            return length > 0 && placeBehind(0, 0) == length;
+        /** Finds where each part ends, which a run needs: whether the bytes are just one part. */
+        boolean findsParts() {
+            return findBehind(0, 0) == length;
         }
 
-        private int placeBehind(int at, int depth) {
+        private int findBehind(int at, int depth) {
             if (at >= length || depth > MOST_DEPTH || code[at] >= PARTS_IN.length || !hasItsByte(at)) {
                 return MALFORMED;
             }
             int part = code[at];
             int place = at + (takesLetter(part) || takesNumber(part) ? 2 : 1);
             for (int i = 0; i < PARTS_IN[part]; i++) {
-                place = placeBehind(place, depth + 1);
+                place = findBehind(place, depth + 1);
                 if (place == MALFORMED) {
                     return MALFORMED;
                 }
@@ -886,15 +858,15 @@ public final class QueryMachine {
         }
 
         int partAt(int at) {
-            return at >= 0 && at < length ? code[at] : FAIL;
+            return byteAt(at);
         }
 
         int letterOf(int at) {
-            return partAt(at + 1);
+            return byteAt(at + 1);
         }
 
         int numberOf(int at) {
-            return partAt(at + 1) - NUMBER_OF_ZERO;
+            return byteAt(at + 1) - BYTE_OF_ZERO;
         }
 
         int firstIn(int at) {
@@ -907,6 +879,10 @@ public final class QueryMachine {
 
         int thirdIn(int at) {
             return placeBehind(secondIn(at));
+        }
+
+        private int byteAt(int at) {
+            return at >= 0 && at < length ? code[at] : FAIL;
         }
 
         private int placeBehind(int at) {
@@ -950,7 +926,7 @@ public final class QueryMachine {
         private final Values values;
         /** All that can begin in one run, as each costs 1. */
         private final Step[] steps;
-        /** One for each depth, as lists around are still being gathered. */
+        /** One for each depth at which a LIST can stand, as the lists around are still being gathered. */
         private final Gathering[] gatherings;
         private final Value[] putOut;
         private Query query;
@@ -965,15 +941,11 @@ public final class QueryMachine {
             for (int i = 0; i < steps.length; i++) {
                 steps[i] = new Step();
             }
-            gatherings = new Gathering[Query.MOST_DEPTH + 1];
+            gatherings = new Gathering[Query.MOST_DEPTH];
             for (int i = 0; i < gatherings.length; i++) {
                 gatherings[i] = new Gathering();
             }
             putOut = new Value[MOST_PUT_OUT];
-            query = null;
-            begun = 0;
-            fuel = 0;
-            size = 0;
             ending = NOT_RUN;
         }
 
@@ -1155,8 +1127,11 @@ public final class QueryMachine {
         }
 
         private int askList(Step step) {
-            if (step.given > 0 || step.depth >= gatherings.length) {
+            if (step.given > 0) {
                 return ENDS;
+            }
+            if (step.depth >= gatherings.length) {
+                return FAILS;
             }
             Gathering gathering = gatherings[step.depth];
             gathering.clear();

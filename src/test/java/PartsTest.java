@@ -20,6 +20,8 @@ final class PartsTest {
         equal();
         less();
         limits();
+        deepQueries();
+        oneAfterTheOther();
         Rig.end(PartsTest.class);
     }
 
@@ -65,8 +67,6 @@ final class PartsTest {
         Rig.leads(SEVEN_AROUND, "PIPE DEEP LENGTH", "1 1 1 1 1 1 1 0 ended 0");
         Rig.leads("[[],{},[[]]]", "PIPE DEEP DEEP",
             "[[],{},[[]]] [] {} [[]] [] [] {} [[]] [] [] ended 0");
-        Rig.leads(SEVEN_AROUND, "TRY ".repeat(12) + "DEEP", "[[[[[[[0]]]]]]] [[[[[[0]]]]]] [[[[[0]]]]] [[[[0]]]] [[[0]]] "
-            + "[[0]] [0] 0 ended 0");
         Rig.leads("{\"a\":[1],\"b\":2}", "LIST DEEP", "[{\"a\":[1],\"b\":2},[1],1,2] ended 0");
     }
 
@@ -254,6 +254,11 @@ final class PartsTest {
         same("[[[[[[[0]]]]]],[[[[[[0]]]]]]]", true);
         same("[[[[[[[0]]]]]],[[[[[[1]]]]]]]", false);
         same("[-9223372036854775808,9223372036854775807]", false);
+        Rig.leads(SEVEN_AROUND, "EQUAL SELF SELF", "true ended 0");
+        Rig.leads("{\"b\":1,\"a\":2}", "EQUAL KEYS LIST BOTH LETTER b LETTER a", "true ended 0");
+        Rig.leads("\"ab\"", "EQUAL SELF ADD LETTER a LETTER b", "true ended 0");
+        Rig.leads("\"a\"", "EQUAL SELF LETTER a", "true ended 0");
+        Rig.leads("{\"a\":null}", "EQUAL SELF PIPE NULL PUT a NULL", "true ended 0");
     }
 
     private static void less(String two, boolean due, boolean dueTurned) {
@@ -314,5 +319,28 @@ final class PartsTest {
         Rig.leads(eleven, "PIPE " + eightTimes + " PIPE PIPE NULL PUT a ITEM 0 FIELD a", "null ended 0");
         Rig.leads("{\"a\":0,\"b\":0}", "PIPE PIPE PUT a LIST BOTH DEEP DEEP PUT b DEEP LENGTH",
             "2 2 2 2 2 2 2 2 2 2 2 2 2 ended 0");
+    }
+
+    /** Twelve parts around a DEEP that goes seven values down. */
+    private static void deepQueries() {
+        String all = "[[[[[[[0]]]]]]] [[[[[[0]]]]]] [[[[[0]]]]] [[[[0]]]] [[[0]]] [[0]] [0] 0 ended 0";
+        for (String around : new String[] {"TRY ", "PIPE SELF ", "BOTH NONE ", "ELSE NONE ", "IF SELF ", "IF NULL SELF "}) {
+            String behind = around.equals("IF SELF ") ? " SELF".repeat(12) : "";
+            Rig.leads(SEVEN_AROUND, around.repeat(12) + "DEEP" + behind, all);
+        }
+        Rig.leads(SEVEN_AROUND, "FOLD NULL SELF ".repeat(12) + "DEEP", "0 ended 0");
+        Rig.leads(SEVEN_AROUND, "ADD NULL ".repeat(12) + "DEEP", all);
+        Rig.leads("null", "PIPE NULL ".repeat(10) + "PUT a LIST NULL", "{\"a\":[null]} ended 0");
+        Rig.leads("null", "TRY ".repeat(11) + "LIST NUMBER 1", "[1] ended 0");
+    }
+
+    /** Nothing of one value, list or object comes into the next. */
+    private static void oneAfterTheOther() {
+        Rig.leads("null", "BOTH PUT a NULL PUT b NULL", "{\"a\":null} {\"b\":null} ended 0");
+        Rig.leads("[[1],[2]]", "ADD EACH EACH", "[1,1] [1,2] [2,1] [2,2] ended 0");
+        Rig.leads("[{\"a\":1},{\"b\":2}]", "ADD EACH EACH",
+            "{\"a\":1} {\"a\":1,\"b\":2} {\"b\":2,\"a\":1} {\"b\":2} ended 0");
+        Rig.leads("[1,2]", "PIPE EACH LIST SELF", "[1] [2] ended 0");
+        Rig.leads("[[1,2],[3]]", "LIST PIPE EACH LIST EACH", "[[1,2],[3]] ended 0");
     }
 }

@@ -7,6 +7,7 @@ final class QueryTest {
         wellFormed();
         malformed();
         depth();
+        bytesOfBefore();
         whatStays();
         Rig.end(QueryTest.class);
     }
@@ -134,6 +135,19 @@ final class QueryTest {
         refuses(Rig.assembled("BOTH NULL ".repeat(13) + "SELF"));
         accepts(Rig.assembled("BOTH ".repeat(12) + "NULL ".repeat(13)));
         refuses(Rig.assembled("BOTH ".repeat(13) + "NULL ".repeat(14)));
+    }
+
+    /** What is missing is not taken from the bytes of an earlier query. */
+    private static void bytesOfBefore() {
+        int[][] missing = {{12}, {8, 0}, {1}, {16, 97}, {16}, {5}, {8, 5, 1}, {8, 0, 6}};
+        for (int[] bytes : missing) {
+            for (int stale : new int[] {0, 97}) {
+                Rig rig = new Rig().bytes(stale, stale, stale, stale, stale);
+                Rig.check("five bytes", Rig.thrown(rig.machine::query), Rig.ARGUMENT);
+                rig.bytes(bytes);
+                Rig.check("some are missing", Rig.thrown(rig.machine::query), Rig.ARGUMENT);
+            }
+        }
     }
 
     private static void whatStays() {
