@@ -44,6 +44,10 @@ final class RunTest {
         Rig.runs("[1,2]", "FOLD EACH NULL SELF", 5, "null ended 0 left 0");
         Rig.runs("[1,2]", "FOLD EACH NULL SELF", 4, "ended 2 left 0");
         Rig.runs("1", "EACH", 9, "ended 1 left 8");
+        String nulls = "[" + "null,".repeat(15) + "null]";
+        Rig.runs(nulls, "ELSE PIPE BOTH EACH EACH " + "BOTH NULL ".repeat(3) + "NULL SELF", 250,
+            nulls + " ended 0 left 20");
+        Rig.runs(nulls, "ELSE PIPE BOTH EACH EACH " + "BOTH NULL ".repeat(4) + "NULL SELF", 250, "ended 2 left 0");
     }
 
     private static void fuelOfTwoAndOfPut() {
