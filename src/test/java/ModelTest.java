@@ -3,8 +3,12 @@ import java.util.Random;
 
 /** Promises 3, 4 and 6 to 14: the machine against the model, on texts and queries from fixed seeds. */
 final class ModelTest {
-    private static final int MACHINES = 8000;
+    private static final int MACHINES = 16000;
     private static final int TURNS = 12;
+    /** Enough for all but the characters of long texts. */
+    private static final int CALLS_OF_A_TURN = 150;
+    private static final int CALLS_WITHOUT_CHARACTERS = 90;
+    private static final int MOST_CHARACTERS = 60;
     private static final String SIGNS = "[]{},:\"\\ -0129eatrufnlsx.";
 
     private static final int[] LEAVES = {0, 1, 2, 3, 4, 5, 6, 7, 15, 17, 18, 19, 20, 21};
@@ -29,7 +33,7 @@ final class ModelTest {
         int[] documents = new int[2];
         for (int seed = 0; seed < MACHINES; seed++) {
             ModelTest test = new ModelTest(seed);
-            for (int turn = 0; turn < TURNS; turn++) {
+            for (int turn = 0; turn < TURNS && test.rig.callsLeft() >= CALLS_OF_A_TURN; turn++) {
                 // A document may stay, so that an adopted one is run on, too.
                 if (test.random.nextInt(3) == 0) {
                     documents[test.document() ? 1 : 0]++;
@@ -57,10 +61,11 @@ final class ModelTest {
         Object read = model.read(text);
         rig.text(text);
         String due = read == null ? Rig.ARGUMENT : Rig.NOTHING_THROWN;
+        rig.counts(2);
         Rig.check("document of " + text, Rig.thrown(rig.machine::document), due);
         Rig.check("bad in " + text, rig.machine.bad(), model.bad);
         document = read == null ? document : read;
-        Rig.check("document", rig.written(-1), Model.text(document));
+        checkText(-1, document);
         return read != null;
     }
 
@@ -162,6 +167,7 @@ final class ModelTest {
         rig.bytes(made);
         Model.Node parsed = model.parsed(made);
         String due = parsed == null ? Rig.ARGUMENT : Rig.NOTHING_THROWN;
+        rig.counts(1);
         Rig.check("query of " + Arrays.toString(made), Rig.thrown(rig.machine::query), due);
         query = parsed == null ? query : parsed;
     }
@@ -233,19 +239,21 @@ final class ModelTest {
     private int run() {
         int fuel = random.nextInt(3) == 0 ? random.nextInt(30) : random.nextInt(251);
         model.run(query, document, fuel);
-        StringBuilder due = new StringBuilder();
-        model.values.forEach(value -> due.append(Model.text(value)).append(' '));
-        due.append("ended ").append(model.ended).append(" left ").append(model.fuel);
+        String due = model.values.size() + " ended " + model.ended + " left " + model.fuel;
         String what = Arrays.toString(Arrays.copyOf(bytes, length)) + " on " + Model.text(document) + " with " + fuel;
-        Rig.check(what, rig.run(fuel), due.toString());
-        for (int k = 0; k < model.values.size(); k++) {
-            told(k, model.values.get(k));
+        rig.counts(4);
+        int count = rig.machine.run(fuel);
+        Rig.check(what, count + " ended " + rig.machine.ended() + " left " + rig.machine.left(), due);
+        Rig.check("count", rig.machine.count(), count);
+        for (int k = 0; k < Math.min(count, model.values.size()); k++) {
+            checkValue(k, model.values.get(k));
         }
         if (!model.values.isEmpty() && random.nextInt(3) == 0) {
             int k = longest();
+            rig.counts(1);
             rig.machine.adopt(k);
             document = model.values.get(k);
-            told(-1, document);
+            checkValue(-1, document);
         }
         return model.ended;
     }
@@ -260,12 +268,20 @@ final class ModelTest {
         return longest;
     }
 
-    private void told(int k, Object value) {
+    private void checkValue(int k, Object value) {
+        rig.counts(2);
         Rig.check("kind", rig.machine.kind(k), Model.kind(value));
         if (value instanceof Long) {
             Rig.check("integer", rig.machine.integer(k), value);
         } else {
             Rig.check("integer", Rig.thrown(() -> rig.machine.integer(k)), Rig.STATE);
         }
+        checkText(k, value);
+    }
+
+    private void checkText(int k, Object value) {
+        String text = Model.text(value);
+        int most = Math.min(MOST_CHARACTERS, rig.callsLeft() - CALLS_WITHOUT_CHARACTERS);
+        rig.checkWritten(k, text, random.nextInt(text.length()), Math.max(0, most));
     }
 }

@@ -17,20 +17,33 @@ final class Rig {
 
     private static int checks = 0;
     private static int wrong = 0;
+    private static int sentences = 0;
+    private static String sentence = "";
+
+    /** What an object answers behind as many calls is free. */
+    static final int MOST_CALLS = 512;
 
     final QueryMachine machine = new QueryMachine();
+    private int calls = 0;
+
+    /** The words of the document to which the checks from here on hold the machine. */
+    static void says(String words) {
+        sentence = words;
+        sentences++;
+    }
 
     static void check(String what, Object got, Object due) {
         checks++;
         if (!got.equals(due)) {
             wrong++;
-            System.out.println(what + ": got " + got + ", due is " + due);
+            System.out.println(what + ": got " + got + ", due is " + due + (sentence.isEmpty() ? "" : " - " + sentence));
         }
     }
 
     /** Ends the test: with exit code 1 when a check was wrong. */
     static void end(Class<?> test) {
-        System.out.println(test.getSimpleName() + ": " + checks + " checks, " + wrong + " wrong");
+        String ofSentences = sentences == 0 ? "" : " of " + sentences + " sentences";
+        System.out.println(test.getSimpleName() + ": " + checks + " checks" + ofSentences + ", " + wrong + " wrong");
         if (wrong > 0 || checks == 0) {
             System.exit(1);
         }
@@ -54,10 +67,23 @@ final class Rig {
         return packed;
     }
 
+    int callsLeft() {
+        return MOST_CALLS - calls;
+    }
+
+    /** A test that calls an object too often is wrong itself. */
+    void counts(int more) {
+        calls += more;
+        if (calls > MOST_CALLS) {
+            check("calls of one object", calls, MOST_CALLS);
+        }
+    }
+
     Rig text(String text) {
         int[] characters = text.chars().toArray();
         for (int from = 0; from < characters.length; from += 8) {
             int n = Math.min(8, characters.length - from);
+            counts(1);
             machine.text(packed(characters, from, n), n);
         }
         return this;
@@ -66,6 +92,7 @@ final class Rig {
     Rig bytes(int... bytes) {
         for (int from = 0; from < bytes.length; from += 8) {
             int n = Math.min(8, bytes.length - from);
+            counts(1);
             machine.bytes(packed(bytes, from, n), n);
         }
         return this;
@@ -73,12 +100,14 @@ final class Rig {
 
     Rig document(String text) {
         text(text);
+        counts(1);
         machine.document();
         return this;
     }
 
     Rig query(String parts) {
         bytes(assembled(parts));
+        counts(1);
         machine.query();
         return this;
     }
@@ -102,16 +131,35 @@ final class Rig {
     String written(int k) {
         StringBuilder text = new StringBuilder();
         int length = machine.written(k, -1);
+        counts(1 + length);
         for (int i = 0; i < length; i++) {
             text.append((char) machine.written(k, i));
         }
         return text.toString();
     }
 
+    /** Checks how long the text of value k is, and at most so many of its characters, from one of them on and round. */
+    void checkWritten(int k, String due, int from, int most) {
+        counts(1);
+        check("how many of value " + k, machine.written(k, -1), due.length());
+        int size = Math.min(most, due.length());
+        counts(size);
+        StringBuilder got = new StringBuilder();
+        StringBuilder wanted = new StringBuilder();
+        for (int i = 0; i < size; i++) {
+            int place = (from + i) % due.length();
+            got.append((char) machine.written(k, place));
+            wanted.append(due.charAt(place));
+        }
+        check("characters of value " + k + " from " + from, got.toString(), wanted.toString());
+    }
+
     /** All that the latest run tells: its values, how it ended and the fuel that was left. */
     String told() {
         StringBuilder told = new StringBuilder();
-        for (int k = 0; k < machine.count(); k++) {
+        int count = machine.count();
+        counts(3);
+        for (int k = 0; k < count; k++) {
             told.append(written(k)).append(' ');
         }
         return told.append("ended ").append(machine.ended()).append(" left ").append(machine.left()).toString();
@@ -119,6 +167,7 @@ final class Rig {
 
     String run(int fuel) {
         int count = machine.run(fuel);
+        counts(2);
         check("run and count", count, machine.count());
         return told();
     }
