@@ -141,8 +141,15 @@ final class BadDocumentTest {
         refuses("[-", 2);
         refuses("[" + SIXTEEN, 32);
         refuses("[[[[[[[[", 8);
-        refuses(" ".repeat(119) + "[", 120);
         refuses("[" + " ".repeat(119), 120);
+        endsBehindThe120th();
+    }
+
+    private static void endsBehindThe120th() {
+        for (String end : new String[] {"[", "{", "[1", "[1,", "{\"a", "{\"a\"", "{\"a\":", "{\"a\":1", "{\"a\":1,", "\"",
+            "\"a", "\"\\", "-", "n", "nul", "fals", "tru", "[[[[[[[["}) {
+            refuses(" ".repeat(120 - end.length()) + end, 120);
+        }
     }
 
     private static void tooLargeIntegers() {

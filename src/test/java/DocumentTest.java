@@ -102,8 +102,8 @@ final class DocumentTest {
 
     private static void objects() {
         Rig.says("an object: { and }, likewise with members: a string, a colon, a value.");
-        for (String text : new String[] {"{}", "{\"a\":1}", "{\"\":{}}", "{\"a\":{\"b c\":[null]},\"\":false}", "{\"a\":1,\"A\":2}",
-            "{\"ab\":1,\"a\":2,\"b\":3}"}) {
+        for (String text : new String[] {"{}", "{\"a\":1}", "{\"\":{}}", "{\"a\":{\"b c\":[null]},\"\":false}",
+            "{\"a\":1,\"A\":2}", "{\"ab\":1,\"a\":2,\"b\":3}"}) {
             reads(text);
         }
     }

@@ -31,7 +31,8 @@ final class FlowTest {
 
     private static void nothingMoreBehindAFailure() {
         Rig.says("it may FAIL, when there is nothing more from it, and a part fails when a part with which it goes on fails");
-        for (String parts : new String[] {"PIPE FAIL SELF", "PIPE SELF FAIL", "BOTH FAIL SELF", "ELSE NONE FAIL", "ELSE FAIL FAIL",
+        for (String parts : new String[] {"PIPE FAIL SELF", "PIPE SELF FAIL", "BOTH FAIL SELF", "ELSE NONE FAIL",
+            "ELSE FAIL FAIL",
             "IF FAIL SELF SELF", "IF SELF FAIL SELF", "IF NULL SELF FAIL", "LIST FAIL", "FOLD FAIL SELF SELF",
             "FOLD SELF FAIL SELF", "FOLD SELF SELF FAIL", "PUT a FAIL", "ADD FAIL SELF", "SUBTRACT SELF FAIL",
             "MULTIPLY FAIL SELF", "EQUAL SELF FAIL", "LESS FAIL SELF"}) {
@@ -89,7 +90,8 @@ final class FlowTest {
     }
 
     private static void ifs() {
-        Rig.says("11 IF p q r: for each value of p, those of q from it, when that is neither null nor false, otherwise those of r.");
+        Rig.says("11 IF p q r: for each value of p, those of q from it, when that is neither null nor false, otherwise "
+            + "those of r.");
         Rig.leads("[null,false,true,0,\"\",[],{}]", "IF EACH NUMBER 1 NUMBER 0", "0 0 1 1 1 1 1 ended 0");
         Rig.leads("[null,5]", "IF EACH SELF EACH", "null 5 [null,5] ended 0");
         Rig.leads("[1,2]", "IF EACH EACH FAIL", "1 2 1 2 ended 0");
@@ -158,7 +160,8 @@ final class FlowTest {
     }
 
     private static void foldsBegin() {
-        Rig.says("(q is begun once; p anew from it for each of its values; r anew for each value of p, and asked for all its values");
+        Rig.says("(q is begun once; p anew from it for each of its values; r anew for each value of p, and asked for all "
+            + "its values");
         Rig.runs("[1,2,3]", "FOLD EACH BOTH NUMBER 0 NUMBER 1 SELF", 50, "0 1 ended 0 left 38");
         Rig.runs("[1,2,3]", "FOLD EACH BOTH NUMBER 0 NUMBER 1 SELF", 8, "0 ended 2 left 0");
         Rig.runs("[1,2,3]", "FOLD EACH NULL BOTH SELF NONE", 50, "null ended 0 left 38");
@@ -184,7 +187,10 @@ final class FlowTest {
         Rig.leads("[1,2]", "FOLD EACH NULL FOLD BOTH ELEMENT NUMBER 7 ELEMENT LIST BOTH SELF ELEMENT", "[[2,2],7] ended 0");
         Rig.leads("[1,2]", "FOLD EACH NULL BOTH FOLD NUMBER 7 NULL ELEMENT ELEMENT", "2 ended 0");
         Rig.leads("[3]", "FOLD EACH NULL FOLD NUMBER 7 NULL LIST FOLD ELEMENT ELEMENT ADD ELEMENT SELF", "[14] ended 0");
-        for (String around : new String[] {"PIPE ELEMENT SELF", "PIPE NUMBER 9 ELEMENT", "BOTH ELEMENT NONE", "BOTH NONE ELEMENT",
+        Rig.leads("[3]", "FOLD EACH NULL LIST FOLD BOTH ELEMENT NUMBER 7 BOTH LIST NONE LIST NONE ADD SELF LIST ELEMENT",
+            "[[3,7],[3,7]] ended 0");
+        for (String around : new String[] {"PIPE ELEMENT SELF", "PIPE NUMBER 9 ELEMENT", "BOTH ELEMENT NONE",
+            "BOTH NONE ELEMENT",
             "ELSE ELEMENT NULL", "ELSE NULL ELEMENT", "IF ELEMENT ELEMENT NULL", "IF NULL NULL ELEMENT", "TRY ELEMENT",
             "PIPE LIST ELEMENT EACH", "PIPE PIPE NULL PUT a ELEMENT FIELD a", "ADD ELEMENT NULL", "ADD NULL ELEMENT"}) {
             Rig.leads("[1,2]", "FOLD EACH LIST NONE ADD SELF LIST " + around, "[1,2] ended 0");
@@ -197,10 +203,14 @@ final class FlowTest {
         Rig.leads("[1,2]", "FOLD ELEMENT NUMBER 5 ELEMENT", "null ended 0");
         Rig.leads("[1,2]", "FOLD EACH ELEMENT SELF", "null ended 0");
         Rig.leads("[1,2]", "BOTH FOLD EACH NULL ELEMENT ELEMENT", "2 null ended 0");
+        Rig.leads("[1,2]", "FOLD BOTH ELEMENT NUMBER 7 BOTH LIST NONE LIST NONE ADD SELF LIST ELEMENT",
+            "[null,7] [null,7] ended 0");
+        Rig.leads("[1,2]", "FOLD NUMBER 7 BOTH ELEMENT ELEMENT SELF", "null null ended 0");
     }
 
     private static void puts() {
-        Rig.says("16 PUT k p: for each value of p an object, it with that value as member k (at its place, or behind the others)");
+        Rig.says("16 PUT k p: for each value of p an object, it with that value as member k (at its place, or behind the "
+            + "others)");
         Rig.leads(ONE_TWO, "PUT a NUMBER 9", "{\"a\":9,\"b\":2} ended 0");
         Rig.leads(ONE_TWO, "PUT b NUMBER 9", "{\"a\":1,\"b\":9} ended 0");
         Rig.leads(ONE_TWO, "PUT c EACH", "{\"a\":1,\"b\":2,\"c\":1} {\"a\":1,\"b\":2,\"c\":2} ended 0");
@@ -225,7 +235,8 @@ final class FlowTest {
     }
 
     private static void itIsWhatItWas() {
-        Rig.says("In p of PIPE, IF, ELSE, BOTH, LIST, TRY, PUT, and of 22 to 26 in p and q, and in p and q of FOLD, it is what it was.");
+        Rig.says("In p of PIPE, IF, ELSE, BOTH, LIST, TRY, PUT, and of 22 to 26 in p and q, and in p and q of FOLD, it is "
+            + "what it was.");
         Rig.leads("[5]", "PIPE SELF SELF", "[5] ended 0");
         Rig.leads("[5]", "PIPE EACH IF EQUAL SELF NUMBER 5 LETTER y LETTER n", "\"y\" ended 0");
         Rig.leads("[5]", "BOTH SELF SELF", "[5] [5] ended 0");

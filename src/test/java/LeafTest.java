@@ -160,7 +160,7 @@ final class LeafTest {
 
     private static void lengthOfIntegers() {
         Rig.says("of an integer itself without its sign (of the least one itself)");
-        Rig.leads("[3,-3,0,-0]", "PIPE EACH LENGTH", "3 3 0 0 ended 0");
+        Rig.leads("[3,-3,1,-1,0,-0]", "PIPE EACH LENGTH", "3 3 1 1 0 0 ended 0");
         Rig.leads("9223372036854775807", "LENGTH", "9223372036854775807 ended 0");
         Rig.leads("-9223372036854775807", "LENGTH", "9223372036854775807 ended 0");
         Rig.leads("-9223372036854775808", "LENGTH", "-9223372036854775808 ended 0");

@@ -20,6 +20,7 @@ final class QueryTest {
         numbers();
         anotherByte();
         missing();
+        missingBehindTheSixtieth();
         missingBehindAnEarlierQuery();
         leftOver();
         twelveAround();
@@ -181,6 +182,23 @@ final class QueryTest {
         }
     }
 
+    /** The byte that is missing would be the 61st. */
+    private static void missingBehindTheSixtieth() {
+        Rig.says("bytes missing");
+        for (int part = 0; part < Rig.PARTS.length; part++) {
+            if (Rig.assembled(PLAINEST[part]).length > 1) {
+                int[] bytes = sixty();
+                bytes[59] = part;
+                refuses(bytes);
+            }
+        }
+        int[] withPut = sixty();
+        withPut[57] = 0;
+        withPut[58] = 16;
+        withPut[59] = 97;
+        refuses(withPut);
+    }
+
     private static void missingBehindAnEarlierQuery() {
         Rig.says("and are none afterwards, also when this throws.");
         int[][] missing = {{12}, {8, 0}, {1}, {16, 97}, {16}, {5}, {8, 5, 1}, {8, 0, 6}};
@@ -209,7 +227,8 @@ final class QueryTest {
     private static void twelveAround() {
         Rig.says("or a part stands in more than 12 others.");
         String[][] around = {
-            {"PIPE ", " SELF"}, {"PIPE SELF ", ""}, {"BOTH ", " SELF"}, {"BOTH SELF ", ""}, {"ELSE ", " SELF"}, {"ELSE SELF ", ""},
+            {"PIPE ", " SELF"}, {"PIPE SELF ", ""}, {"BOTH ", " SELF"}, {"BOTH SELF ", ""}, {"ELSE ", " SELF"},
+            {"ELSE SELF ", ""},
             {"IF ", " SELF SELF"}, {"IF SELF ", " SELF"}, {"IF SELF SELF ", ""}, {"LIST ", ""}, {"TRY ", ""},
             {"FOLD ", " SELF SELF"}, {"FOLD SELF ", " SELF"}, {"FOLD SELF SELF ", ""}, {"PUT a ", ""},
             {"ADD ", " SELF"}, {"ADD SELF ", ""}, {"SUBTRACT ", " SELF"}, {"MULTIPLY SELF ", ""}, {"EQUAL ", " SELF"},

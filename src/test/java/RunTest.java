@@ -193,7 +193,8 @@ final class RunTest {
     private static void howMany() {
         Rig.says("Runs: how many values were put out.");
         Rig rig = new Rig().document("[1,2,3]");
-        String[] queries = {"NONE", "SELF", "EACH", "BOTH EACH FAIL", "BOTH EACH EACH", "BOTH BOTH BOTH EACH EACH EACH BOTH EACH "
+        String[] queries = {"NONE", "SELF", "EACH", "BOTH EACH FAIL", "BOTH EACH EACH",
+            "BOTH BOTH BOTH EACH EACH EACH BOTH EACH "
             + "BOTH EACH EACH"};
         int[] dues = {0, 1, 3, 3, 6, 16};
         for (int i = 0; i < queries.length; i++) {

@@ -94,7 +94,8 @@ final class TwoTest {
     }
 
     private static void objects() {
-        Rig.says("of two objects: the members of x, then those of y, as with keys that come again (those of x keep their places)");
+        Rig.says("of two objects: the members of x, then those of y, as with keys that come again (those of x keep their "
+            + "places)");
         Rig.leads("[{\"a\":1,\"b\":2},{\"c\":3,\"a\":4}]", "ADD ITEM 0 ITEM 1", "{\"a\":4,\"b\":2,\"c\":3} ended 0");
         Rig.leads("[{\"a\":1,\"b\":2},{\"c\":3,\"a\":4}]", "ADD ITEM 1 ITEM 0", "{\"c\":3,\"a\":1,\"b\":2} ended 0");
         Rig.leads("[{\"a\":1},{\"b\":2}]", "ADD EACH EACH", "{\"a\":1} {\"a\":1,\"b\":2} {\"b\":2,\"a\":1} {\"b\":2} ended 0");
@@ -112,8 +113,8 @@ final class TwoTest {
     private static void subtractAndMultiplyOfOthers() {
         Rig.says("(those of x keep their places); otherwise it fails.");
         for (String part : new String[] {"SUBTRACT", "MULTIPLY"}) {
-            fails(part, "[null,1]", "[null,null]", "[null,\"a\"]", "[null,[]]", "[null,{}]", "[\"a\",\"b\"]", "[[1],[1]]", "[{},{}]",
-                "[true,1]", "[1,\"a\"]", "[1,[1]]", "[1,{}]", "[true,true]", "[false,false]");
+            fails(part, "[null,1]", "[null,null]", "[null,\"a\"]", "[null,[]]", "[null,{}]", "[\"a\",\"b\"]", "[[1],[1]]",
+                "[{},{}]", "[true,1]", "[1,\"a\"]", "[1,[1]]", "[1,{}]", "[true,true]", "[false,false]");
         }
     }
 
@@ -124,8 +125,8 @@ final class TwoTest {
 
     private static void equal() {
         Rig.says("EQUAL: whether they are the same");
-        String[] all = {"null", "false", "true", "0", "1", "\"\"", "\"a\"", "\"b\"", "\"ab\"", "[]", "[0]", "[0,1]", "[1,0]", "{}",
-            "{\"a\":0}", "{\"a\":1}", "{\"b\":0}", "{\"a\":0,\"b\":0}"};
+        String[] all = {"null", "false", "true", "0", "1", "\"\"", "\"a\"", "\"b\"", "\"ab\"", "[]", "[0]", "[0,1]", "[1,0]",
+            "{}", "{\"a\":0}", "{\"a\":1}", "{\"b\":0}", "{\"a\":0,\"b\":0}"};
         for (int i = 0; i < all.length; i++) {
             for (int j = 0; j < all.length; j++) {
                 same("[" + all[i] + "," + all[j] + "]", i == j);
