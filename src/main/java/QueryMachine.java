@@ -213,7 +213,9 @@ public final class QueryMachine {
             int mostHeight = 0;
             for (int i = 0; i < items.length; i++) {
                 allWeights += items[i].weight;
-                mostHeight = Math.max(mostHeight, items[i].height + 1);
+                if (items[i].height >= mostHeight) {
+                    mostHeight = items[i].height + 1;
+                }
             }
             weight = allWeights;
             height = mostHeight;
@@ -277,8 +279,7 @@ public final class QueryMachine {
 
         /** Below 0 when x comes before y, 0 when they are the same, above 0 otherwise. */
         static int order(char[] x, char[] y) {
-            int both = Math.min(x.length, y.length);
-            for (int i = 0; i < both; i++) {
+            for (int i = 0; i < x.length && i < y.length; i++) {
                 if (x[i] != y[i]) {
                     return x[i] - y[i];
                 }
@@ -412,8 +413,8 @@ public final class QueryMachine {
             return new Value(Value.LIST, 0, NO_LETTERS, noItems, object.keys);
         }
 
-        /** Two values added that are not both integers; null when they can't be. */
-        Value joined(Value x, Value y) {
+        /** The two values added; null when they can't be. */
+        Value sum(Value x, Value y) {
             if (x.kind == Value.NULL) {
                 return y;
             }
@@ -424,6 +425,8 @@ public final class QueryMachine {
                 return null;
             }
             switch (x.kind) {
+                case Value.INTEGER:
+                    return number(x.number + y.number);
                 case Value.STRING:
                     return joinedStrings(x.letters, y.letters);
                 case Value.LIST:
@@ -435,6 +438,20 @@ public final class QueryMachine {
                 default:
                     return null;
             }
+        }
+
+        /** The difference of two integers; null when they are not. */
+        Value difference(Value x, Value y) {
+            return areIntegers(x, y) ? number(x.number - y.number) : null;
+        }
+
+        /** The product of two integers; null when they are not. */
+        Value product(Value x, Value y) {
+            return areIntegers(x, y) ? number(x.number * y.number) : null;
+        }
+
+        private static boolean areIntegers(Value x, Value y) {
+            return x.kind == Value.INTEGER && y.kind == Value.INTEGER;
         }
 
         private Value joinedStrings(char[] x, char[] y) {
@@ -760,7 +777,7 @@ public final class QueryMachine {
         }
     }
 
-    /** A query: its bytes, and for each byte with which a part begins the place behind that part. */
+    /** A query: its bytes, and for each byte with which a part begins where the parts in it begin. */
     private static final class Query {
         static final int SELF = 0;
         static final int FIELD = 1;
@@ -790,6 +807,12 @@ public final class QueryMachine {
         static final int EQUAL = 25;
         static final int LESS = 26;
 
+        /** The parts in a part. */
+        static final int P = 0;
+        static final int Q = 1;
+        static final int R = 2;
+        private static final int MOST_PARTS_IN = 3;
+
         static final int MOST_BYTES = 60;
         static final int MOST_DEPTH = 12;
         static final int FIRST_LETTER = 97;
@@ -802,12 +825,13 @@ public final class QueryMachine {
         };
 
         private final int[] code;
-        private final int[] behind;
+        /** Where p, q and r of the part at each place begin. */
+        private final int[] begins;
         int length;
 
         Query() {
             code = new int[MOST_BYTES];
-            behind = new int[MOST_BYTES];
+            begins = new int[MOST_BYTES * MOST_PARTS_IN];
         }
 
         void clear() {
@@ -821,7 +845,7 @@ public final class QueryMachine {
             }
         }
 
-        /** Finds where each part ends, which a run needs: whether the bytes are just one part. */
+        /** Finds where each part begins, which a run needs: whether the bytes are just one part. */
         boolean findsParts() {
             return findBehind(0, 0) == length;
         }
@@ -833,12 +857,12 @@ public final class QueryMachine {
             int part = code[at];
             int place = at + (takesLetter(part) || takesNumber(part) ? 2 : 1);
             for (int i = 0; i < PARTS_IN[part]; i++) {
+                begins[at * MOST_PARTS_IN + i] = place;
                 place = findBehind(place, depth + 1);
                 if (place == MALFORMED) {
                     return MALFORMED;
                 }
             }
-            behind[at] = place;
             return place;
         }
 
@@ -869,24 +893,14 @@ public final class QueryMachine {
             return byteAt(at + 1) - BYTE_OF_ZERO;
         }
 
-        int firstIn(int at) {
-            return partAt(at) == PUT ? at + 2 : at + 1;
-        }
-
-        int secondIn(int at) {
-            return placeBehind(firstIn(at));
-        }
-
-        int thirdIn(int at) {
-            return placeBehind(secondIn(at));
+        /** Where P, Q or R of the part at that place begins. */
+        int placeIn(int at, int which) {
+            int place = at * MOST_PARTS_IN + which;
+            return place >= 0 && place < begins.length ? begins[place] : length;
         }
 
         private int byteAt(int at) {
             return at >= 0 && at < length ? code[at] : FAIL;
-        }
-
-        private int placeBehind(int at) {
-            return at >= 0 && at < length ? behind[at] : length;
         }
     }
 
@@ -1037,14 +1051,14 @@ public final class QueryMachine {
 
         private int askFirst(Step step) {
             if (step.first == null) {
-                step.first = begin(query.firstIn(step.at), step.depth + 1, step.it, step.element);
+                step.first = begin(query.placeIn(step.at, Query.P), step.depth + 1, step.it, step.element);
             }
             return ask(step.first);
         }
 
         private int askSecond(Step step) {
             if (step.second == null) {
-                step.second = begin(query.secondIn(step.at), step.depth + 1, step.it, step.element);
+                step.second = begin(query.placeIn(step.at, Query.Q), step.depth + 1, step.it, step.element);
             }
             return ask(step.second);
         }
@@ -1170,7 +1184,7 @@ public final class QueryMachine {
                 if (answer != GIVES) {
                     return answer;
                 }
-                Step third = begin(query.thirdIn(step.at), step.depth + 1, result, step.first.value);
+                Step third = begin(query.placeIn(step.at, Query.R), step.depth + 1, result, step.first.value);
                 answer = askForAll(third);
                 if (third == null || answer != ENDS) {
                     return answer;
@@ -1219,8 +1233,22 @@ public final class QueryMachine {
             if (!pays()) {
                 return STARVES;
             }
-            Value made = valueOfTwo(query.partAt(step.at), step.first.value, step.second.value);
-            return givesOrFails(step, made);
+            Value x = step.first.value;
+            Value y = step.second.value;
+            switch (query.partAt(step.at)) {
+                case Query.ADD:
+                    return givesOrFails(step, values.sum(x, y));
+                case Query.SUBTRACT:
+                    return givesOrFails(step, values.difference(x, y));
+                case Query.MULTIPLY:
+                    return givesOrFails(step, values.product(x, y));
+                case Query.EQUAL:
+                    return gives(step, values.truth(x.isSameAs(y)));
+                case Query.LESS:
+                    return gives(step, values.truth(x.isLessThan(y)));
+                default:
+                    return FAILS;
+            }
         }
 
         /** For the parts in which q, or r, begins anew for each value of p: the next value of that. */
@@ -1244,33 +1272,9 @@ public final class QueryMachine {
 
         private Step beginSecond(Step step, Value x) {
             int part = query.partAt(step.at);
-            boolean takesThird = part == Query.IF && !x.isTruthy();
-            int at = takesThird ? query.thirdIn(step.at) : query.secondIn(step.at);
-            return begin(at, step.depth + 1, part == Query.PIPE ? x : step.it, step.element);
-        }
-
-        private Value valueOfTwo(int part, Value x, Value y) {
-            if (part == Query.EQUAL) {
-                return values.truth(x.isSameAs(y));
-            }
-            if (part == Query.LESS) {
-                return values.truth(x.isLessThan(y));
-            }
-            if (x.kind == Value.INTEGER && y.kind == Value.INTEGER) {
-                return values.number(numberOfTwo(part, x.number, y.number));
-            }
-            return part == Query.ADD ? values.joined(x, y) : null;
-        }
-
-        private static long numberOfTwo(int part, long x, long y) {
-            switch (part) {
-                case Query.ADD:
-                    return x + y;
-                case Query.SUBTRACT:
-                    return x - y;
-                default:
-                    return x * y;
-            }
+            int which = part == Query.IF && !x.isTruthy() ? Query.R : Query.Q;
+            Value it = part == Query.PIPE ? x : step.it;
+            return begin(query.placeIn(step.at, which), step.depth + 1, it, step.element);
         }
 
         private int askOnlyValue(Step step) {
